@@ -936,8 +936,8 @@ public final class LadderSigns {
     }
 
     private void pad(int end) {
-      Arrays.fill(message, length, end, (byte) 0);
       message[length] = (byte) 0x80;
+      for (int i = length + 1; i < end; i++) message[i] = 0;
       int bits = 8 * length;
       message[end - 1] = (byte) bits;
       message[end - 2] = (byte) (bits >>> 8);
