@@ -533,12 +533,12 @@ public final class LadderSigns {
 
     private void makeExact(long[] a) {
       move(a, exact);
+      // This brings the number within a few thousand of 0 .. p.
       carry(exact);
-      // From within a few thousand of 0 .. 2^255, this one comes into it.
-      carry(exact);
-      // With 19 more, just what is p or above goes over 2^255 and comes back as less p.
+      // With 19 more, just what is p or above goes over 2^255, and comes back less p.
       exact[0] += WRAP;
       carry(exact);
+      // What was below 0 has come back with p more, or does so here.
       exact[0] -= WRAP;
       carry(exact);
     }
