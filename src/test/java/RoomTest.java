@@ -15,13 +15,12 @@ public final class RoomTest {
     LadderSigns x = desk();
     everyCall(x);
     x = desk();
+    // The first look may itself make something.
+    ROOM.getThreadAllocatedBytes(me);
     long before = ROOM.getThreadAllocatedBytes(me);
+    for (int i = 0; i < 12; i++) everyCall(x);
     long after = ROOM.getThreadAllocatedBytes(me);
-    long looking = after - before;
-    before = ROOM.getThreadAllocatedBytes(me);
-    for (int i = 0; i < 15; i++) everyCall(x);
-    after = ROOM.getThreadAllocatedBytes(me);
-    DUE.is("bytes that calls take", after - before - looking, 0);
+    DUE.is("bytes that calls take", after - before, 0);
     before = ROOM.getThreadAllocatedBytes(me);
     LadderSigns y = new LadderSigns();
     after = ROOM.getThreadAllocatedBytes(me);
