@@ -54,7 +54,7 @@ final class Both {
     due.same("all that is seen after " + told, Desk.seen(desk), model.seen());
   }
 
-  private static long answer(Method method, Object on, long[] arguments) {
+  static long answer(Method method, Object on, long[] arguments) {
     Class<?>[] types = method.getParameterTypes();
     Object[] given = new Object[types.length];
     for (int i = 0; i < types.length; i++) {

@@ -17,10 +17,22 @@ final class Desk {
     put(x, slot, BigInteger.valueOf(number));
   }
 
+  /** A new desk with these numbers in the slots 0, 1 and so on. */
+  static LadderSigns with(BigInteger... numbers) {
+    LadderSigns x = new LadderSigns();
+    for (int i = 0; i < numbers.length; i++) put(x, i, numbers[i]);
+    return x;
+  }
+
   static BigInteger get(LadderSigns x, int slot) {
+    return number(x.word(slot, 0), x.word(slot, 1), x.word(slot, 2), x.word(slot, 3));
+  }
+
+  /** The number of some words without a sign, the lowest first. */
+  static BigInteger number(long... words) {
     BigInteger all = BigInteger.ZERO;
-    for (int i = 3; i >= 0; i--) {
-      BigInteger word = BigInteger.valueOf(x.word(slot, i));
+    for (int i = words.length - 1; i >= 0; i--) {
+      BigInteger word = BigInteger.valueOf(words[i]);
       all = all.shiftLeft(64).add(word.signum() < 0 ? word.add(WORD) : word);
     }
     return all;

@@ -23,6 +23,14 @@ final class Due {
     }
   }
 
+  long seen() {
+    return seen;
+  }
+
+  long wrong() {
+    return wrong;
+  }
+
   void end() {
     System.out.println(name + ": " + seen + " answers seen, " + wrong + " not as due");
     if (wrong != 0 || seen == 0) System.exit(1);

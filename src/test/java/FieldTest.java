@@ -36,7 +36,7 @@ public final class FieldTest {
   private static void fields() {
     for (BigInteger a : SOME) {
       for (BigInteger b : SOME) {
-        LadderSigns x = deskWith(a, b);
+        LadderSigns x = Desk.with(a, b);
         for (int way = 0; way < 4; way++) {
           String call = "field " + way + " of " + a + " and " + b;
           if (way == 3 && Model.fieldNumber(b).signum() == 0) {
@@ -48,12 +48,6 @@ public final class FieldTest {
         }
       }
     }
-  }
-
-  private static LadderSigns deskWith(BigInteger... numbers) {
-    LadderSigns x = new LadderSigns();
-    for (int i = 0; i < numbers.length; i++) Desk.put(x, i, numbers[i]);
-    return x;
   }
 
   private static void sameSlots() {
@@ -95,7 +89,7 @@ public final class FieldTest {
   private static void powers() {
     for (BigInteger a : SOME) {
       for (BigInteger b : SOME) {
-        LadderSigns x = deskWith(a, b);
+        LadderSigns x = Desk.with(a, b);
         DUE.is("power", x.power(0, 1, 2), 1);
         DUE.same("power " + a + " to " + b, Desk.get(x, 2), Model.fieldNumber(a).modPow(b, P));
       }
@@ -124,7 +118,7 @@ public final class FieldTest {
   private static void roots() {
     int without = 0;
     for (BigInteger a : SOME) {
-      LadderSigns x = deskWith(a, BigInteger.valueOf(12345));
+      LadderSigns x = Desk.with(a, BigInteger.valueOf(12345));
       BigInteger root = Model.rootOf(Model.fieldNumber(a));
       DUE.is("root of " + a, x.root(0, 1), root == null ? 0 : 1);
       DUE.same("root of " + a, Desk.get(x, 1), root == null ? BigInteger.valueOf(12345) : root);
@@ -173,7 +167,7 @@ public final class FieldTest {
   private static void compares() {
     for (BigInteger a : SOME) {
       for (BigInteger b : SOME) {
-        LadderSigns x = deskWith(a, b);
+        LadderSigns x = Desk.with(a, b);
         DUE.is("compare " + a + " with " + b, x.compare(0, 1), a.compareTo(b));
       }
     }
@@ -189,7 +183,7 @@ public final class FieldTest {
         BigInteger a = SOME.get(i);
         BigInteger b = SOME.get(j);
         BigInteger c = SOME.get((7 * i + 11 * j) % SOME.size());
-        LadderSigns x = deskWith(a, b, c);
+        LadderSigns x = Desk.with(a, b, c);
         DUE.is("scalar", x.scalar(0, 1, 2, 3), 1);
         DUE.same("scalar " + a + " " + b + " " + c, Desk.get(x, 3), a.multiply(b).add(c).mod(L));
       }

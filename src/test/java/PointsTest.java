@@ -30,15 +30,9 @@ public final class PointsTest {
     DUE.end();
   }
 
-  private static LadderSigns deskWith(BigInteger... numbers) {
-    LadderSigns x = new LadderSigns();
-    for (int i = 0; i < numbers.length; i++) Desk.put(x, i, numbers[i]);
-    return x;
-  }
-
   /** Figures of RFC 8032 and of others, not of the Model. */
   private static void knownPoints() {
-    LadderSigns x = deskWith(BigInteger.ONE);
+    LadderSigns x = Desk.with(BigInteger.ONE);
     x.base(0, 1);
     DUE.same("BASE", Desk.get(x, 1), Desk.hex("5866666666666666666666666666666666666666666666666666666666666666"));
     x.across(1, 2);
@@ -54,7 +48,7 @@ public final class PointsTest {
 
   private static void whatIsNone() {
     for (BigInteger no : NO_POINTS) {
-      LadderSigns x = deskWith(no, BASE, BigInteger.valueOf(77));
+      LadderSigns x = Desk.with(no, BASE, BigInteger.valueOf(77));
       DUE.is("isPoint of " + no, x.isPoint(0), 0);
       DUE.is("across of " + no, x.across(0, 2), -1);
       DUE.is("sum of it and BASE", x.sum(0, 0, 1, 2), -1);
@@ -72,7 +66,7 @@ public final class PointsTest {
 
   private static void readings() {
     for (BigInteger yes : POINTS) {
-      LadderSigns x = deskWith(yes);
+      LadderSigns x = Desk.with(yes);
       DUE.is("isPoint of " + yes, x.isPoint(0), 1);
       DUE.is("across of " + yes, x.across(0, 1), 1);
       DUE.same("across of " + yes, Desk.get(x, 1), Model.point(yes)[0]);
@@ -82,7 +76,7 @@ public final class PointsTest {
     }
     int found = 0;
     for (int y = 0; y < 100; y++) {
-      LadderSigns x = deskWith(BigInteger.valueOf(y), P.subtract(BigInteger.valueOf(y + 1)));
+      LadderSigns x = Desk.with(BigInteger.valueOf(y), P.subtract(BigInteger.valueOf(y + 1)));
       boolean is = Model.point(BigInteger.valueOf(y)) != null;
       if (is) found++;
       DUE.is("isPoint of " + y, x.isPoint(0), is ? 1 : 0);
@@ -94,7 +88,7 @@ public final class PointsTest {
   private static void sums() {
     for (BigInteger a : POINTS) {
       for (BigInteger b : POINTS) {
-        LadderSigns x = deskWith(a, b);
+        LadderSigns x = Desk.with(a, b);
         BigInteger[] p = Model.point(a);
         BigInteger[] q = Model.point(b);
         DUE.is("sum", x.sum(0, 0, 1, 2), 1);
@@ -106,7 +100,7 @@ public final class PointsTest {
   }
 
   private static void sumsInPlace() {
-    LadderSigns x = deskWith(BASE);
+    LadderSigns x = Desk.with(BASE);
     x.sum(0, 0, 0, 0);
     DUE.same("BASE and BASE in place", Desk.get(x, 0), Model.bytesOf(Model.sumOf(Model.BASE, Model.BASE)));
     x.sum(1, 0, 0, 0);
@@ -123,14 +117,14 @@ public final class PointsTest {
     for (int i = 0; i < numbers.size(); i++) {
       BigInteger k = numbers.get(i);
       BigInteger a = POINTS.get(i % POINTS.size());
-      LadderSigns x = deskWith(k, a);
+      LadderSigns x = Desk.with(k, a);
       DUE.is("times", x.times(0, 1, 2), 1);
       DUE.same(k + " times " + a, Desk.get(x, 2), Model.bytesOf(Model.product(k, Model.point(a))));
       DUE.is("times costs 1", x.count(1), 399);
     }
     // All bits count: with a point of eight, a number modulo L would be another one.
     for (BigInteger[] small : Numbers.smallPoints()) {
-      LadderSigns x = deskWith(Numbers.ALL, Model.bytesOf(small));
+      LadderSigns x = Desk.with(Numbers.ALL, Model.bytesOf(small));
       x.times(0, 1, 1);
       DUE.same("2^256 - 1 times a small point", Desk.get(x, 1), Model.bytesOf(Model.minus(small)));
     }
@@ -138,12 +132,12 @@ public final class PointsTest {
 
   private static void productsOfBase() {
     for (BigInteger k : Numbers.ends()) {
-      LadderSigns x = deskWith(k);
+      LadderSigns x = Desk.with(k);
       DUE.is("base", x.base(0, 1), 1);
       DUE.same(k + " times BASE", Desk.get(x, 1), Model.bytesOf(Model.product(k, Model.BASE)));
       DUE.is("base costs 1", x.count(1), 399);
     }
-    LadderSigns x = deskWith(Model.L);
+    LadderSigns x = Desk.with(Model.L);
     x.base(0, 0);
     DUE.same("L times BASE", Desk.get(x, 0), NEUTRAL);
   }
@@ -152,11 +146,11 @@ public final class PointsTest {
     BigInteger five = BigInteger.valueOf(5);
     BigInteger due = Model.bytesOf(Model.product(five, Model.BASE));
     for (int t = 0; t < 2; t++) {
-      LadderSigns x = deskWith(five, BASE);
+      LadderSigns x = Desk.with(five, BASE);
       x.times(0, 1, t);
       DUE.same("5 times BASE into slot " + t, Desk.get(x, t), due);
     }
-    LadderSigns x = deskWith(BASE);
+    LadderSigns x = Desk.with(BASE);
     x.times(0, 0, 0);
     DUE.same("BASE's BYTES times BASE", Desk.get(x, 0), Model.bytesOf(Model.product(BASE, Model.BASE)));
   }
@@ -165,17 +159,17 @@ public final class PointsTest {
     int[] dues = {0, 3, 2, 3, 1, 3, 2, 3};
     List<BigInteger[]> all = Numbers.smallPoints();
     for (int i = 0; i < 8; i++) {
-      LadderSigns x = deskWith(Model.bytesOf(all.get(i)), Model.bytesOf(Model.sumOf(all.get(i), Model.BASE)));
+      LadderSigns x = Desk.with(Model.bytesOf(all.get(i)), Model.bytesOf(Model.sumOf(all.get(i), Model.BASE)));
       DUE.is("small of " + i + " times a point of eight", x.small(0), dues[i]);
       DUE.is("small of it and BASE", x.small(1), 4);
       DUE.is("small costs nothing", x.count(1), 400);
     }
-    DUE.is("small of BASE", deskWith(BASE).small(0), 4);
+    DUE.is("small of BASE", Desk.with(BASE).small(0), 4);
   }
 
   private static void otherShapes() {
     for (BigInteger a : POINTS) {
-      LadderSigns x = deskWith(a, BigInteger.TWO);
+      LadderSigns x = Desk.with(a, BigInteger.TWO);
       BigInteger y = Model.point(a)[1];
       BigInteger due = Model.over(BigInteger.ONE.add(y), BigInteger.ONE.subtract(y));
       DUE.is("other of " + a, x.other(0, 1), 1);
@@ -187,7 +181,7 @@ public final class PointsTest {
     Random random = new Random(21);
     for (int i = 0; i < 20; i++) {
       BigInteger k = new BigInteger(256, random);
-      LadderSigns x = deskWith(k, Model.clamped(k), BigInteger.valueOf(9));
+      LadderSigns x = Desk.with(k, Model.clamped(k), BigInteger.valueOf(9));
       x.base(1, 3);
       x.other(3, 3);
       x.share(0, 2, 4);
@@ -196,7 +190,7 @@ public final class PointsTest {
   }
 
   private static void unknownSlots() {
-    LadderSigns x = deskWith(BASE);
+    LadderSigns x = Desk.with(BASE);
     for (int no : new int[] {-1, 24, Integer.MIN_VALUE, Integer.MAX_VALUE}) {
       DUE.is("isPoint", x.isPoint(no), -101);
       DUE.is("across from", x.across(no, 0), -101);

@@ -49,14 +49,8 @@ public final class SecretsTest {
     DUE.end();
   }
 
-  private static LadderSigns deskWith(BigInteger... numbers) {
-    LadderSigns x = new LadderSigns();
-    for (int i = 0; i < numbers.length; i++) Desk.put(x, i, numbers[i]);
-    return x;
-  }
-
   private static BigInteger shared(BigInteger k, BigInteger u) {
-    LadderSigns x = deskWith(k, u);
+    LadderSigns x = Desk.with(k, u);
     DUE.is("share", x.share(0, 1, 2), Desk.get(x, 2).signum());
     return Desk.get(x, 2);
   }
@@ -77,7 +71,7 @@ public final class SecretsTest {
     BigInteger k = NINE;
     BigInteger u = NINE;
     for (int i = 0; i < 1000; ) {
-      LadderSigns x = deskWith(k, u);
+      LadderSigns x = Desk.with(k, u);
       for (int j = 0; j < 100; j++, i++) {
         x.share(0, 1, 2);
         x.copy(0, 1);
@@ -96,7 +90,7 @@ public final class SecretsTest {
     for (int i = 0; i < 40; i++) us.add(Numbers.any(random));
     for (BigInteger u : us) {
       BigInteger k = Numbers.any(random);
-      LadderSigns x = deskWith(k, u, BigInteger.TEN);
+      LadderSigns x = Desk.with(k, u, BigInteger.TEN);
       BigInteger due = Model.ladder(k, Model.fieldNumber(u));
       DUE.is("share", x.share(0, 1, 2), due.signum());
       DUE.same("share of " + k + " and " + u, Desk.get(x, 2), due);
@@ -114,7 +108,7 @@ public final class SecretsTest {
       Desk.hex("5f9c95bca3508c24b1d0b1559c83ef5b04445cc4581c8e86d8224eddd09f1157")
     };
     for (BigInteger u : us) {
-      LadderSigns x = deskWith(Numbers.ALL, u, Numbers.ALL);
+      LadderSigns x = Desk.with(Numbers.ALL, u, Numbers.ALL);
       DUE.is("share of " + u, x.share(0, 1, 2), 0);
       DUE.same("t becomes 0", Desk.get(x, 2), BigInteger.ZERO);
       DUE.is("that costs 1 too", x.count(1), 399);
@@ -150,7 +144,7 @@ public final class SecretsTest {
     for (int length = 0; length <= 400; length++) {
       byte[] text = new byte[length];
       random.nextBytes(text);
-      LadderSigns x = deskWith();
+      LadderSigns x = Desk.with();
       Desk.write(x, text);
       int t = length % 23;
       DUE.is("digest", x.digest(t), 1);
@@ -167,7 +161,7 @@ public final class SecretsTest {
 
   private static void keysAndSignaturesByTheBook() {
     for (String[] row : SIGNED) {
-      LadderSigns x = deskWith(Desk.hex(row[0]));
+      LadderSigns x = Desk.with(Desk.hex(row[0]));
       Desk.write(x, Desk.bytes(row[2]));
       DUE.is("key", x.key(0, 1), 1);
       DUE.same("key of RFC 8032", Desk.get(x, 1), Desk.hex(row[1]));
@@ -186,7 +180,7 @@ public final class SecretsTest {
 
   private static void keysOfAnyKind() {
     for (BigInteger secret : Numbers.ends()) {
-      LadderSigns x = deskWith(secret);
+      LadderSigns x = Desk.with(secret);
       DUE.is("key", x.key(0, 1), 1);
       DUE.same("key of " + secret, Desk.get(x, 1), Model.publicKey(secret));
     }
@@ -203,7 +197,7 @@ public final class SecretsTest {
       signature.initSign(keys.generatePrivate(new EdECPrivateKeySpec(NamedParameterSpec.ED25519, Desk.row(secret, 32))));
       signature.update(text);
       BigInteger due = Desk.number(signature.sign());
-      LadderSigns x = deskWith(secret);
+      LadderSigns x = Desk.with(secret);
       Desk.write(x, text);
       DUE.is("sign", x.sign(0, 1), 1);
       DUE.same("as Java's Ed25519 of " + length + " bytes", Desk.get(x, 1).add(Desk.get(x, 2).shiftLeft(256)), due);
@@ -216,7 +210,7 @@ public final class SecretsTest {
     BigInteger secret = Desk.hex(SIGNED[0][0]);
     BigInteger bigR = Desk.hex(SIGNED[0][3].substring(0, 64));
     BigInteger s = Desk.hex(SIGNED[0][3].substring(64));
-    LadderSigns x = deskWith(secret);
+    LadderSigns x = Desk.with(secret);
     x.key(0, 0);
     DUE.same("key in place", Desk.get(x, 0), Desk.hex(SIGNED[0][1]));
     for (int place = 5; place <= 6; place++) {
@@ -238,7 +232,7 @@ public final class SecretsTest {
   }
 
   private static void unknownSlots() {
-    LadderSigns x = deskWith(BigInteger.TEN);
+    LadderSigns x = Desk.with(BigInteger.TEN);
     for (int no : new int[] {-1, 24, Integer.MIN_VALUE, Integer.MAX_VALUE}) {
       DUE.is("share k", x.share(no, 0, 0), -101);
       DUE.is("share u", x.share(0, no, 0), -101);
