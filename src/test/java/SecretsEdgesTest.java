@@ -193,6 +193,7 @@ public final class SecretsEdgesTest {
     run.has(0, Desk.hex(want.substring(0, 64)));
     run.has(1, Desk.hex(want.substring(64)));
     run.type(1, 200);
+    run.make("digest", 5);
     run.make("clear");
     run.is(1, "digest", 2);
     run.has(2, Desk.hex(want.substring(0, 64)));
