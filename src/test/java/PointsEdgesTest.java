@@ -186,6 +186,17 @@ public final class PointsEdgesTest {
     sumIs(due, 1, BASE, timesBase(3), Model.bytesOf(Model.minus(Model.point(timesBase(2)))));
   }
 
+  @Sentence(promise = 17, words = "those of y, with the lowest bit of x as the highest one")
+  static void bytesOfEvenAndOddX(Due due) {
+    sumIs(due, 0, NEUTRAL, BASE, Desk.hex("5866666666666666666666666666666666666666666666666666666666666666"));
+    sumIs(due, 1, NEUTRAL, BASE, Desk.hex("58666666666666666666666666666666666666666666666666666666666666e6"));
+    // Of x = 0 it is 0, and y = p - 1 stays below p.
+    sumIs(due, 1, NEUTRAL, MINUS_ONE, MINUS_ONE);
+    sumIs(due, 0, ZERO, ZERO, MINUS_ONE);
+    sumIs(due, 0, ZERO, TOP, NEUTRAL);
+    sumIs(due, 0, ZERO, MINUS_ONE, TOP);
+  }
+
   @Sentence(promise = 17, words = "SLOT t becomes the BYTES of POINT a and POINT b")
   static void sumOverWhatItReads(Due due) {
     for (int way = 0; way < 2; way++) {
