@@ -1,8 +1,6 @@
 import java.io.IOException;
 import java.lang.reflect.InvocationTargetException;
 import java.lang.reflect.Method;
-import java.nio.file.Files;
-import java.nio.file.Path;
 import java.util.ArrayList;
 import java.util.Comparator;
 import java.util.List;
@@ -12,9 +10,6 @@ final class Edges {
   static final int NONE = -1, UNKNOWN = -101, OUTSIDE = -102, STATE = -103, FULL = -104;
   static final long LEAST = Integer.MIN_VALUE, MOST = Integer.MAX_VALUE;
   static final long[] NO_SLOTS = {-1, 24, LEAST, MOST};
-
-  private static final Path DOCUMENT = Path.of("..", "shared", "DOC.md");
-  private static final String[] REFUSALS = {"NONE", "UNKNOWN", "OUTSIDE", "STATE", "FULL"};
 
   private Edges() {}
 
@@ -68,10 +63,10 @@ final class Edges {
   }
 
   private static void compareWithDocument(Due due, List<Method> tests, int first, int last) throws IOException {
-    String document = Files.readString(DOCUMENT).replaceAll("\\s+", " ");
-    String terms = between(document, "## Terms", "## Promise 1:");
+    Document document = new Document();
+    String terms = document.terms();
     for (int promise = first; promise <= last; promise++) {
-      String text = between(document, "## Promise " + promise + ":", "## ");
+      String text = document.promise(promise);
       StringBuilder quoted = new StringBuilder();
       for (Method test : tests) {
         Sentence sentence = test.getAnnotation(Sentence.class);
@@ -81,17 +76,10 @@ final class Edges {
         due.is("promise " + promise + " or the Terms say \"" + sentence.words() + "\"", stands ? 1 : 0, 1);
       }
       due.is("promise " + promise + " has tests", quoted.length() > 0 ? 1 : 0, 1);
-      for (String refusal : REFUSALS) {
-        boolean fits = !text.contains(refusal) || quoted.toString().contains(refusal);
+      for (String refusal : document.refusals(promise)) {
+        boolean fits = quoted.toString().contains(refusal);
         due.is("promise " + promise + " has a test of " + refusal, fits ? 1 : 0, 1);
       }
     }
-  }
-
-  private static String between(String document, String heading, String next) {
-    int from = document.indexOf(heading);
-    if (from < 0) return "";
-    int to = document.indexOf(next, from + heading.length());
-    return to < 0 ? document.substring(from) : document.substring(from, to);
   }
 }

@@ -7,7 +7,11 @@ import java.util.Random;
 public final class ModelTest {
   private static final int LIGHT_RUNS = 200;
   private static final int HEAVY_RUNS = 6;
-  private static final int MOST_CALLS = 380;
+  private static final int WHOLE_LIVES = 4;
+  /** Few enough to look at all of the desk afterwards. */
+  private static final int CALLS_OF_A_RUN = 380;
+  private static final int CALLS_OF_A_LIFE = 512;
+  private static final int MOST_CALLS_OF_A_STEP = 4;
   private static final String[] LIGHT = {
     "set", "word", "copy", "type", "clear", "at", "flip", "field", "field", "field", "power", "root",
     "about", "compare", "scalar", "isPoint", "across", "sum", "sum", "small", "other", "digest", "count"
@@ -24,22 +28,32 @@ public final class ModelTest {
     Due due = new Due("ModelTest");
     for (int i = 0; i < LIGHT_RUNS; i++) run(due, 3);
     for (int i = 0; i < HEAVY_RUNS; i++) run(due, 50);
+    for (int i = 0; i < WHOLE_LIVES; i++) wholeLife(due, 10 * i);
     due.end();
   }
 
   private static void run(Due due, int heavyInHundred) {
     Both both = new Both(due);
-    while (both.calls < MOST_CALLS) {
-      int kind = RANDOM.nextInt(100);
-      if (kind < heavyInHundred) {
-        heavy(both);
-      } else if (kind < heavyInHundred + 15) {
-        both.put(RANDOM.nextInt(Desk.SLOTS), number());
-      } else {
-        any(both, LIGHT[RANDOM.nextInt(LIGHT.length)]);
-      }
-    }
+    while (both.calls < CALLS_OF_A_RUN) step(both, heavyInHundred);
     both.compare();
+  }
+
+  /** Each of the calls that a desk is for is due to be right, the last one too. */
+  private static void wholeLife(Due due, int heavyInHundred) {
+    Both both = new Both(due);
+    while (both.calls <= CALLS_OF_A_LIFE - MOST_CALLS_OF_A_STEP) step(both, heavyInHundred);
+    while (both.calls < CALLS_OF_A_LIFE) any(both, LIGHT[RANDOM.nextInt(LIGHT.length)]);
+  }
+
+  private static void step(Both both, int heavyInHundred) {
+    int kind = RANDOM.nextInt(100);
+    if (kind < heavyInHundred) {
+      heavy(both);
+    } else if (kind < heavyInHundred + 15) {
+      both.put(RANDOM.nextInt(Desk.SLOTS), number());
+    } else {
+      any(both, LIGHT[RANDOM.nextInt(LIGHT.length)]);
+    }
   }
 
   private static void heavy(Both both) {
